@@ -321,7 +321,8 @@ public final class SoundAdvice {
         if (!isChoice(n, what)) {
             return NONE;
         }
-        if (!choice.choose(now, lister, n, what)) {
+        lister.begin(now, n);
+        if (!choice.choose(now, lister, what)) {
             return -2;
         }
         tellTokens(choice.token);
@@ -675,7 +676,8 @@ public final class SoundAdvice {
         if (!isChoice(n, what)) {
             return NONE;
         }
-        if (!choice.choose(now, lister, n, what) || now.isAdvice(choice.token)) {
+        lister.begin(now, n);
+        if (!choice.choose(now, lister, what) || now.isAdvice(choice.token)) {
             return -2;
         }
         System.arraycopy(choice.token, 0, now.token, 0, MOST_PROFILES);
@@ -845,7 +847,7 @@ public final class SoundAdvice {
 
         /** The profile that p becomes, if that player does b. */
         int instead(int player, int p, int b) {
-            return p + (b - doing(player, p)) * stride[player];
+            return p + (b - does[player * MOST_PROFILES + p]) * stride[player];
         }
 
         int payOf(int player, int p) {
@@ -897,7 +899,7 @@ public final class SoundAdvice {
         int valueOf(int player, int[] tokens) {
             int together = 0;
             for (int p = 0; p < profiles; p++) {
-                together += tokens[p] * payOf(player, p);
+                together += tokens[p] * pay[player * MOST_PROFILES + p];
             }
             return together;
         }
@@ -1156,11 +1158,11 @@ public final class SoundAdvice {
         int number;
         int worth;
 
-        boolean choose(Game game, Lister lister, int n, int what) {
+        /** Goes through what the lister has just begun; false if there is none. */
+        boolean choose(Game game, Lister lister, int what) {
             int planBits = what == 6 ? game.planBits() : 0;
             number = NONE;
             worth = 0;
-            lister.begin(game, n);
             for (int k = 0; k < LONGEST_LIST && lister.next(); k++) {
                 int worthThen = worthOf(game, lister.token, what, planBits);
                 if (number == NONE || isBetter(worthThen, what)) {
@@ -1218,25 +1220,25 @@ public final class SoundAdvice {
             whole.clear();
             whole.putAll(tokens);
             lean.clear();
-            return !leans(0, 0, false);
+            return !leans(whole, lean, 0, 0, false);
         }
 
         /** Tries all leans from profile p on; of a lean and its mirror image one is enough. */
-        private boolean leans(int p, int sum, boolean begun) {
+        private static boolean leans(Tally whole, Tally lean, int p, int sum, boolean begun) {
             if (p >= whole.profiles) {
-                return begun && sum == 0 && isWithin();
+                return begun && sum == 0 && isWithin(whole, lean);
             }
             int most = whole.token[p];
             boolean found = false;
             for (int d = begun ? -most : 0; d <= most && !found; d++) {
                 lean.put(p, d);
-                found = leans(p + 1, sum + d, begun || d != 0);
+                found = leans(whole, lean, p + 1, sum + d, begun || d != 0);
                 lean.put(p, -d);
             }
             return found;
         }
 
-        private boolean isWithin() {
+        private static boolean isWithin(Tally whole, Tally lean) {
             for (int k = 0; k < whole.gains.length; k++) {
                 if (Math.abs(lean.gains[k]) > -whole.gains[k]) {
                     return false;
