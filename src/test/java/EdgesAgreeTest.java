@@ -13,8 +13,8 @@ public final class EdgesAgreeTest {
     private static final int MIN = Integer.MIN_VALUE;
     private static final int MAX = Integer.MAX_VALUE;
     private static final int[] EDGES = {MIN, MIN + 1, -65536, -257, -129, -11, -10, -9, -8, -2, -1, 0, 1, 2, 3, 4, 5,
-        6, 7, 8, 9, 10, 11, 19, 29, 30, 31, 59, 60, 61, 79, 80, 81, 127, 128, 246, 247, 256, 3002, 3003, 32768, 65535, 65545,
-        MAX - 1, MAX};
+        6, 7, 8, 9, 10, 11, 19, 29, 30, 31, 59, 60, 61, 79, 80, 81, 127, 128, 246, 247, 256, 3002, 3003, 32768,
+        65535, 65545, MAX - 1, MAX};
     /** Arguments of which most calls with several are not refused. */
     private static final int[] LOW = {-1, 0, 1, 2, 3, 4, 6, 8, 9};
     private static final int MOST_TUPLES = 2500;

@@ -3,8 +3,8 @@ import java.lang.management.ManagementFactory;
 
 /** All calls of one run live in one room: no call but those that throw makes an object. */
 public final class RoomTest {
-    private static final String[] GAMES = {"33,jjjjjjjjjjjjjjjjjj", "222,jjjjjjjjjjjjjjjjjjjjjjjj", "33,jjikkikijjikikkijj",
-        "22,pplqqljj"};
+    private static final String[] GAMES = {"33,jjjjjjjjjjjjjjjjjj", "222,jjjjjjjjjjjjjjjjjjjjjjjj",
+        "33,jjikkikijjikikkijj", "22,pplqqljj"};
     private static final int SLACK = 4096;
 
     private static int[][] packed;

@@ -407,7 +407,8 @@ final class TermsPart {
         Bench.Call[] calls = {x -> x.gain(0, 0, 1), SoundAdvice::sound, SoundAdvice::tight, x -> x.hangs(1),
             SoundAdvice::values, x -> x.map(0), SoundAdvice::corner, SoundAdvice::plans, x -> x.sure(1),
             SoundAdvice::left, x -> x.list(2), x -> x.best(2, 7), x -> x.number(2, 0), x -> x.near(2, 0),
-            SoundAdvice::beyond, x -> x.play(1, 3, 0, 60), x -> x.mixed(0), x -> x.were(0, 0, 9), x -> x.range(0, 0), SoundAdvice::mends,
+            SoundAdvice::beyond, x -> x.play(1, 3, 0, 60), x -> x.mixed(0), x -> x.were(0, 0, 9),
+            x -> x.range(0, 0), SoundAdvice::mends,
             x -> Bench.live(x, ""), x -> x.years(3, 30), x -> x.scales(0, Bench.MAX, Bench.MAX),
             x -> x.sheet(0, 8, 2, 3, 0, 0)};
         for (Bench.Call call : calls) {
