@@ -6,6 +6,9 @@ import java.util.List;
 final class ListsPart {
     private static final int MIN = Bench.MIN;
     private static final int MAX = Bench.MAX;
+    private static final int LONGEST_LIST = 3003;
+    /** Longer ones are not looked through by pairs. */
+    private static final int SHORT_LIST = 400;
     /** The one way to draw alone in it is (1/2, 1/2) and (1/3, 2/3): sound advice of 6 tokens, of no fewer. */
     private static final String SIXTHS = "22,ljjkjkkj";
     /** The same with (2/3, 1/3) and (1/3, 2/3): of 9 tokens. */
@@ -87,9 +90,10 @@ final class ListsPart {
     private static void corners(String game, int n) {
         SoundAdvice x = Bench.of(game);
         List<long[]> all = new ArrayList<>();
-        for (int k = 0; x.number(n, k) > 0; k++) {
+        for (int k = 0; k < SHORT_LIST && x.number(n, k) > 0; k++) {
             all.add(Bench.rowOf(x));
         }
+        Bench.due("a short list of " + game, all.size() < SHORT_LIST, true);
         int corners = 0;
         for (long[] one : all) {
             boolean isCorner = !liesBetween(one, all);
@@ -273,7 +277,7 @@ final class ListsPart {
             isPlan[(int) x.row(2 * k)] = true;
         }
         int found = 0;
-        for (int k = 0; x.number(n, k) > 0; k++) {
+        for (int k = 0; k < LONGEST_LIST && x.number(n, k) > 0; k++) {
             boolean off = true;
             for (int p = 0; p < isPlan.length; p++) {
                 off &= !isPlan[p] || x.row(p) == 0;
