@@ -70,6 +70,7 @@ public final class BoundariesTest {
     }
 
     public static void main(String[] args) throws IOException {
+        Watch.begin();
         TermsPart.run();
         TextsPart.run();
         QuestionsPart.run();

@@ -148,6 +148,7 @@ public final class EdgesAgreeTest {
     }
 
     public static void main(String[] args) {
+        Watch.begin();
         try {
             new EdgesAgreeTest().run();
         } catch (ReflectiveOperationException | RuntimeException e) {

@@ -1094,6 +1094,7 @@ public final class PromisesTest {
     }
 
     public static void main(String[] args) {
+        Watch.begin();
         newObject();
         sign();
         end();

@@ -55,6 +55,7 @@ public final class RoomTest {
     }
 
     public static void main(String[] args) {
+        Watch.begin();
         packed = new int[GAMES.length][];
         SoundAdvice[] objects = new SoundAdvice[GAMES.length];
         for (int k = 0; k < GAMES.length; k++) {

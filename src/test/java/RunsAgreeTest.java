@@ -312,6 +312,7 @@ public final class RunsAgreeTest {
 
     public static void main(String[] args) {
         int runs = args.length > 0 ? Integer.parseInt(args[0]) : RUNS;
+        Watch.begin(Watch.SECONDS + runs);
         long first = args.length > 1 ? Long.parseLong(args[1]) : 0;
         for (int run = 0; run < runs; run++) {
             try {
